@@ -331,8 +331,9 @@ public final class SweetWaits {
         if (one == null || two == null || !gather(first, group)) {
             return NONE;
         }
-        weigh(one, two);
-        return ratio.cut(1, MILLION);
+        countFactors(one, ratio.above);
+        countFactors(two, ratio.below);
+        return ratio.timesByFactors();
     }
 
     public int likely(int group) {
@@ -340,24 +341,20 @@ public final class SweetWaits {
             return NONE;
         }
         int most = 0;
+        countFactors(now.lawAt(most), ratio.below);
         for (int i = 1; i < now.lawCount; i++) {
-            weigh(now.lawAt(i), now.lawAt(most));
-            if (ratio.isAboveOne()) {
+            countFactors(now.lawAt(i), ratio.above);
+            if (ratio.isMoreByFactors()) {
                 most = i;
+                ratio.putBelow();
             }
         }
         return most;
     }
 
-    /** The ratio becomes how many times as LIKELY the one law is for the first group as the other one. */
-    private void weigh(Law one, Law other) {
-        ratio.clearPowers();
-        putFactors(one, 1);
-        putFactors(other, -1);
-        ratio.raise();
-    }
-
-    private void putFactors(Law law, int sign) {
+    /** How often each factor comes by which a law is LIKELY for the first group. */
+    private void countFactors(Law law, int[] factors) {
+        Arrays.fill(factors, 0);
         if (law == null) {
             return;
         }
@@ -374,9 +371,9 @@ public final class SweetWaits {
                     chance = asked.chanceBy(law, m);
                 }
                 if (m < minutes) {
-                    ratio.put(100 - chance, sign);
+                    factors[100 - chance]++;
                 } else if (took) {
-                    ratio.put(chance, sign);
+                    factors[chance]++;
                 }
             }
         }
@@ -629,9 +626,13 @@ public final class SweetWaits {
         int n = 0;
         for (int i = 0; i < first.size; i++) {
             int one = first.members[i];
-            for (int k = 0; k < second.size && now.isTried(one); k++) {
+            int how = now.at(one, HOW);
+            int tenths = now.at(one, TENTHS);
+            for (int k = 0; k < second.size && isTrial(how); k++) {
                 int other = second.members[k];
-                if (one != other && now.isTried(other) && lasting(one, other) == what) {
+                int otherHow = now.at(other, HOW);
+                int more = tenths - now.at(other, TENTHS);
+                if (one != other && isTrial(otherHow) && lasting(how, otherHow, more) == what) {
                     n++;
                 }
             }
@@ -640,23 +641,18 @@ public final class SweetWaits {
     }
 
     /** Of two TRIED ones: 0 the one lasts longer, 1 the other one, 2 EVEN, 3 not SURE. */
-    private int lasting(int one, int other) {
-        if (outlasts(one, other)) {
+    private static int lasting(int how, int otherHow, int more) {
+        if (outlasts(how, otherHow, more)) {
             return 0;
         }
-        if (outlasts(other, one)) {
+        if (outlasts(otherHow, how, -more)) {
             return 1;
         }
-        boolean bothTook = now.at(one, HOW) == TOOK && now.at(other, HOW) == TOOK;
-        return bothTook ? 2 : 3;
+        return how == TOOK && otherHow == TOOK ? 2 : 3;
     }
 
-    private boolean outlasts(int one, int other) {
-        if (now.at(other, HOW) != TOOK) {
-            return false;
-        }
-        int more = now.at(one, TENTHS) - now.at(other, TENTHS);
-        return now.at(one, HOW) == TOOK ? more > 0 : more >= 0;
+    private static boolean outlasts(int how, int otherHow, int more) {
+        return otherHow == TOOK && (how == TOOK ? more > 0 : more >= 0);
     }
 
     // ---- worlds ----
@@ -835,6 +831,10 @@ public final class SweetWaits {
         return within(fact, 0, FACTS - 1) && within(value, 0, FACT_MOST[fact]);
     }
 
+    private static boolean isTrial(int how) {
+        return how == TOOK || how == CUT;
+    }
+
     private static boolean within(int n, int least, int most) {
         return n >= least && n <= most;
     }
@@ -884,7 +884,8 @@ public final class SweetWaits {
         }
 
         int at(int child, int slot) {
-            return has(child) && within(slot, 0, WIDTH - 1) ? rows[child * WIDTH + slot] : NONE;
+            boolean there = child >= 0 && child < size && slot >= 0 && slot < WIDTH;
+            return there ? rows[child * WIDTH + slot] : NONE;
         }
 
         int put(int child, int slot, int value) {
@@ -909,8 +910,7 @@ public final class SweetWaits {
         }
 
         boolean isTried(int child) {
-            int how = at(child, HOW);
-            return how == TOOK || how == CUT;
+            return isTrial(at(child, HOW));
         }
 
         int side(int child) {
@@ -1368,7 +1368,7 @@ public final class SweetWaits {
             int top = 0;
             int at = from;
             // Jumps go on ahead alone, so there are never more turns than steps.
-            for (int turn = 0; turn < steps.length && at < to && within(at, 0, steps.length - 1); turn++) {
+            for (int turn = 0; turn < steps.length && at >= 0 && at < to && at < steps.length; turn++) {
                 int step = steps[at];
                 at++;
                 if (step < PLUS) {
@@ -1377,7 +1377,7 @@ public final class SweetWaits {
                     }
                     stack[top] = step < FIRST_WORD ? step : asked.wordAt(step - FIRST_WORD);
                     top++;
-                } else if (top < 1 || top > stack.length) {
+                } else if (top < 1) {
                     return BROKEN;
                 } else if (step == NOT) {
                     stack[top - 1] = 1 - stack[top - 1];
@@ -1451,7 +1451,7 @@ public final class SweetWaits {
         }
 
         int wordAt(int word) {
-            return within(word, 0, MINUTE) ? words[word] : 0;
+            return word >= 0 && word <= MINUTE ? words[word] : 0;
         }
 
         int chanceBy(Law law, int minute) {
@@ -1479,13 +1479,31 @@ public final class SweetWaits {
         private static final int BASE = 1 << BITS;
         // 120 children give 20 factors below 128 each: 560 digits; one more is for the scale.
         private static final int DIGITS = 600;
-        private static final int POWERS = 100;
+        // The factors are chances 1 .. 99 of 100.
+        private static final int FACTORS = 100;
+        // Binary logarithms of the factors in 1,048,576ths, cut, and one that is above that of a million.
+        private static final int[] LOGS = {
+            0, 0, 1048576, 1661953, 2097152, 2434718, 2710529, 2943724, 3145728, 3323907,
+            3483294, 3627476, 3759105, 3880192, 3992300, 4096671, 4194304, 4286015, 4372483, 4454274,
+            4531870, 4605678, 4676052, 4743298, 4807681, 4869436, 4928768, 4985860, 5040876, 5093962,
+            5145247, 5194851, 5242880, 5289430, 5334591, 5378443, 5421059, 5462507, 5502850, 5542145,
+            5580446, 5617800, 5654254, 5689850, 5724628, 5758625, 5791874, 5824408, 5856257, 5887449,
+            5918012, 5947969, 5977344, 6006159, 6034436, 6062195, 6089452, 6116228, 6142538, 6168398,
+            6193823, 6218828, 6243427, 6267632, 6291456, 6314910, 6338006, 6360755, 6383167, 6405252,
+            6427019, 6448477, 6469635, 6490501, 6511083, 6531389, 6551426, 6571201, 6590721, 6609993,
+            6629022, 6647814, 6666376, 6684713, 6702830, 6720733, 6738426, 6755915, 6773204, 6790298,
+            6807201, 6823917, 6840450, 6856804, 6872984, 6888992, 6904833, 6920510, 6936025, 6951384
+        };
+        private static final int MILLION_LOG = 20 << 20;
 
         private final int[] over = new int[DIGITS];
         private final int[] under = new int[DIGITS];
         private int overLength = 1;
         private int underLength = 1;
-        private final int[] powers = new int[POWERS];
+        final int[] above = new int[FACTORS];
+        final int[] below = new int[FACTORS];
+        private long about = 0;
+        private long doubt = 0;
 
         void start() {
             over[0] = 1;
@@ -1513,42 +1531,65 @@ public final class SweetWaits {
             return length;
         }
 
-        void clearPowers() {
-            Arrays.fill(powers, 0);
+        /** The factors above become those below. */
+        void putBelow() {
+            System.arraycopy(above, 0, below, 0, FACTORS);
         }
 
-        /** A factor 1 .. 99 comes to the one side (sign 1) or to the other one (-1): alike ones cancel. */
-        void put(int factor, int sign) {
-            if (within(factor, 1, POWERS - 1)) {
-                powers[factor] += sign;
+        boolean isMoreByFactors() {
+            weighFactors();
+            if (about > doubt || about < -doubt) {
+                return about > 0;
+            }
+            raise();
+            return !covers(under, underLength, 1, over, overLength);
+        }
+
+        int timesByFactors() {
+            weighFactors();
+            if (about < -doubt) {
+                return 0;
+            }
+            if (about - doubt >= MILLION_LOG) {
+                return MILLION;
+            }
+            raise();
+            return cut(1, MILLION);
+        }
+
+        /** Exact products are dear, and logarithms mostly decide: these, and how far off they may be at most. */
+        private void weighFactors() {
+            about = 0;
+            doubt = 0;
+            for (int factor = 1; factor < FACTORS; factor++) {
+                int power = above[factor] - below[factor];
+                about += (long) power * LOGS[factor];
+                doubt += Math.abs(power);
             }
         }
 
-        /** The fraction becomes what was put. */
-        void raise() {
+        /** The fraction becomes the product of the factors above through that of those below. */
+        private void raise() {
             start();
-            overLength = growByPowers(over, overLength, 1);
-            underLength = growByPowers(under, underLength, -1);
+            overLength = growByFactors(over, above, below);
+            underLength = growByFactors(under, below, above);
         }
 
-        private int growByPowers(int[] digits, int length, int sign) {
-            int grown = length;
+        /** Of factors that come on both sides only those that are left over count. */
+        private static int growByFactors(int[] digits, int[] here, int[] there) {
+            int length = 1;
             // Small factors are gathered, as each growing goes through all digits.
             int gathered = 1;
-            for (int factor = 2; factor < POWERS; factor++) {
-                for (int i = 0; i < sign * powers[factor]; i++) {
-                    if (gathered >= BASE / POWERS) {
-                        grown = grow(digits, grown, gathered);
+            for (int factor = 2; factor < FACTORS; factor++) {
+                for (int i = there[factor]; i < here[factor]; i++) {
+                    if (gathered >= BASE / FACTORS) {
+                        length = grow(digits, length, gathered);
                         gathered = 1;
                     }
                     gathered *= factor;
                 }
             }
-            return grow(digits, grown, gathered);
-        }
-
-        boolean isAboveOne() {
-            return !covers(under, underLength, 1, over, overLength);
+            return grow(digits, length, gathered);
         }
 
         boolean isHalfOrLess() {
@@ -1664,6 +1705,7 @@ public final class SweetWaits {
         private final Group shorts = new Group();
         private final Group found = new Group();
         private final int[] things = new int[CHILDREN_MOST];
+        private final int[] ways = new int[CHILDREN_MOST];
         private final int[] balances = new int[SETS];
         private final int[] decided = new int[SETS];
         final int[] scores = new int[WAYS];
@@ -1688,10 +1730,12 @@ public final class SweetWaits {
         }
 
         void add(int child, int side, int thing) {
-            if (thing == NONE || !within(child, 0, CHILDREN_MOST - 1)) {
+            int place = child * WIDTH + WAY;
+            if (thing == NONE || !within(child, 0, CHILDREN_MOST - 1) || place >= rows.length) {
                 return;
             }
             things[child] = thing;
+            ways[child] = SweetWaits.nearest(rows[place], 0, WAYS - 1);
             found.add(child);
             if (side == LONG) {
                 longs.add(child);
@@ -1731,20 +1775,24 @@ public final class SweetWaits {
         }
 
         static boolean alikeIn(int[] rows, int one, int other, int facts) {
-            boolean alike = true;
-            for (int fact = 0; fact < FACTS && alike; fact++) {
-                alike = ((facts >> fact) & 1) == 0 || sameFact(rows, one, other, fact);
+            return (alikeFacts(rows, one, other) & facts) == facts;
+        }
+
+        /** The FACTS in which two children are ALIKE, as bits. */
+        private static int alikeFacts(int[] rows, int one, int other) {
+            int a = one * WIDTH;
+            int b = other * WIDTH;
+            int last = rows.length - FACTS;
+            if (!within(a, 0, last) || !within(b, 0, last)) {
+                return 0;
             }
-            return alike;
-        }
-
-        private static boolean sameFact(int[] rows, int one, int other, int fact) {
-            return factAt(rows, one, fact) == factAt(rows, other, fact);
-        }
-
-        private static int factAt(int[] rows, int child, int fact) {
-            int place = child * WIDTH + fact;
-            return within(place, 0, rows.length - 1) ? rows[place] : NONE;
+            int bits = 0;
+            for (int fact = 0; fact < FACTS; fact++) {
+                if (rows[a + fact] == rows[b + fact]) {
+                    bits |= 1 << fact;
+                }
+            }
+            return bits;
         }
 
         /** The set of FACTS by which WON less LOST is nearest to 0; NONE without a pair that is WON or LOST. */
@@ -1769,7 +1817,7 @@ public final class SweetWaits {
                 for (int k = 0; k < shorts.size; k++) {
                     int sign = compare(i, k);
                     if (sign != 0) {
-                        int set = alikeFacts(longs.members[i], shorts.members[k]);
+                        int set = alikeFacts(rows, longs.members[i], shorts.members[k]);
                         balances[set] += sign;
                         decided[set]++;
                     }
@@ -1785,23 +1833,13 @@ public final class SweetWaits {
             }
         }
 
-        private int alikeFacts(int one, int other) {
-            int bits = 0;
-            for (int fact = 0; fact < FACTS; fact++) {
-                if (sameFact(rows, one, other, fact)) {
-                    bits |= 1 << fact;
-                }
-            }
-            return bits;
-        }
-
         /** WON less LOST of each WAY: the BEST one. */
         int scoreWays() {
             Arrays.fill(scores, 0);
             for (int i = 0; i < longs.size; i++) {
-                int way = factAt(rows, longs.members[i], WAY);
-                for (int k = 0; k < shorts.size && within(way, 0, WAYS - 1); k++) {
-                    if (factAt(rows, shorts.members[k], WAY) == way) {
+                int way = ways[longs.members[i]];
+                for (int k = 0; k < shorts.size; k++) {
+                    if (ways[shorts.members[k]] == way) {
                         scores[way] += compare(i, k);
                     }
                 }
