@@ -97,7 +97,7 @@ final class LikelyTest {
         x.minute(0, 200, 0);
         c.due("not in the 20th", x.times(3, 4, -1), 0);
         c.due("but its 100 less", x.times(4, 3, -1), 1);
-        // 1000008 and 999992 millionths of a million: 90*90*90*90*90*90 / (9*9*9*9*9*9) turned a little
+        // five times 90/9 and once 89/9
         Check.text(x, "chance 10;chance 11 if minute=5");
         x.minute(0, 60, 1);
         c.due("just below a million", x.times(5, 1, -1), 988888);
