@@ -95,6 +95,15 @@ final class ImageTest {
         c.due("no room", Check.text(x, "in"), -5);
         x.back(0);
         c.due("room again", Check.text(x, "in"), 1);
+        SweetWaits y = new SweetWaits();
+        y.child(0, 0, 0, 0, 0, 0);
+        y.image(0);
+        Check.text(y, "chance 10");
+        y.image(1);
+        y.back(0);
+        Check.text(y, "chance 20");
+        y.back(1);
+        c.due("the first text as it was", y.chance(0, 0, 0), 10);
     }
 
     private static void refused(Check c) {

@@ -140,5 +140,20 @@ final class LikelyTest {
         c.due("likely", x.likely(-1), 2);
         c.due("a little more", x.times(2, 0, -1), 348);
         c.due("a little less", x.times(0, 2, -1), 0);
+        // a child's first two minutes give 39*41 in place of 40*40: 1599/1600, hidden among 2400 other factors
+        x.fact(0, 1, 1);
+        String near = "chance 20;chance 80 if minute/2*2=minute;chance 61 if wit=1 and minute=0;chance 59 if wit=1 and minute=1";
+        c.due("text", Check.text(x, near), 3);
+        c.due("next to alike", x.times(3, 0, -1), 0);
+        c.due("next to alike", x.times(0, 3, -1), 1);
+        c.due("next to alike", x.times(3, 1, -1), 0);
+        SweetWaits y = new SweetWaits();
+        for (int i = 0; i < 120; i++) {
+            y.child(0, i == 0 ? 1 : 0, 0, 0, 0, 0);
+            y.minute(i, 200, 1);
+        }
+        Check.text(y, near);
+        Check.text(y, "chance 60");
+        c.due("likely", y.likely(-1), 1);
     }
 }

@@ -84,6 +84,17 @@ final class StaysTest {
         c.due("never so little", x.half(-1), -1);
         x.minute(2, 5, 1);
         c.due("none such", x.goneOn(-1), 200);
+        x.minute(2, 0, 1);
+        x.minute(0, 1, 0);
+        c.due("from 0 on", x.goneOn(-1), 1);
+        c.due("cut off at 0 is not there at 1", x.stays(-1, 1), 0);
+        x.minute(2, 0, 0);
+        x.minute(0, 0, 0);
+        c.due("all took it at once", x.right(-1, 0, 5), -1);
+        x.minute(2, 200, 0);
+        x.minute(0, 200, 0);
+        c.due("all took it at the end", x.right(-1, 200, 200), -1);
+        c.due("just ahead of it", x.right(-1, 199, 200), 0);
         c.due("above", x.stays(-1, 201), -1);
         c.due("below", x.stays(-1, -1), -1);
         c.due("no text", x.stays(0, 0), -1);

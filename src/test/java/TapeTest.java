@@ -63,5 +63,15 @@ final class TapeTest {
         x.feed(256, 0, 0, 0, 0);
         x.end(4);
         c.due("256 can't be", x.row(1), 1);
+        x.feed(5, 0, 0, 0, 0);
+        x.end(4);
+        c.due("one whole number", x.row(0), 0);
+        c.due("took 5", x.of(0, 9), 5);
+        x.feed(-1, 0, 0, 0, 0);
+        x.end(3);
+        c.due("a number that is not whole", x.row(0), 1);
+        c.due("had to go", x.of(0, 10), 2);
+        x.feed(7, 999, 999, 999, 999);
+        c.due("behind the last nobody goes", x.row(6), 0);
     }
 }

@@ -154,6 +154,9 @@ final class TextTest {
         c.due("and ahead of or", waits("waits 7 if wit=3 or wit=4 and wit=5"), 7);
         c.due("and ahead of or", waits("waits 7 if [1]=1 and 1=2 or 2=2"), 7);
         c.due("brackets of tests", waits("waits 7 if (wit=3 or wit=4) and wit=5"), 0);
+        c.due("not within not", waits("waits 7 if not (not (wit=3))"), 7);
+        c.due("not within not", waits("waits 7 if not (not (wit=4))"), 0);
+        c.due("each head by itself", waits("waits 7;later 9;chance 8;in"), 7);
         c.due("three and", waits("waits 7 if 1=1 and 1=2 and 1=1"), 0);
         c.due("three or", waits("waits 7 if 1=2 or 1=1 or 1=2"), 7);
         c.due("not of brackets", waits("waits 7 if not (1=1 and 1=2)"), 7);

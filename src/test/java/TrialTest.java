@@ -74,9 +74,11 @@ final class TrialTest {
         c.due("dealt alone", x.trial(5, 3, -1), 2);
         Check.text(x, "waits way*[8-way]");
         c.due("way alone", x.trial(6, 3, -1), 12);
-        c.due("no such text", x.trial(7, 0, -1), -1);
+        Check.text(x, "waits way");
+        c.due("way and nothing else", x.trial(3, 7, -1), 69);
+        c.due("no such text", x.trial(8, 0, -1), -1);
         c.due("no such text", x.trial(0, -1, -1), -1);
-        c.due("no such group", x.trial(0, 1, 7), -1);
+        c.due("no such group", x.trial(0, 1, 8), -1);
     }
 
     private static void fewest(Check c) {
@@ -111,5 +113,8 @@ final class TrialTest {
         c.due("200 each", x.fewest(1, 2, -1, 0, 0, 1000), 5);
         c.due("200 each", x.fewest(1, 2, -1, 0, 0, 801), 5);
         c.due("200 each", x.fewest(1, 2, -1, 0, 0, 800), 4);
+        Check.text(x, "waits 1");
+        c.due("1 each, the last way and dealt", x.fewest(1, 3, -1, 23, 2, 4), 4);
+        c.due("1 each", x.fewest(3, 1, -1, 23, 2, 6), -1);
     }
 }
