@@ -628,11 +628,11 @@ public final class SweetWaits {
             int one = first.members[i];
             int how = now.at(one, HOW);
             int tenths = now.at(one, TENTHS);
-            for (int k = 0; k < second.size && isTrial(how); k++) {
+            for (int k = 0; k < second.size && meansTried(how); k++) {
                 int other = second.members[k];
                 int otherHow = now.at(other, HOW);
                 int more = tenths - now.at(other, TENTHS);
-                if (one != other && isTrial(otherHow) && lasting(how, otherHow, more) == what) {
+                if (one != other && meansTried(otherHow) && lasting(how, otherHow, more) == what) {
                     n++;
                 }
             }
@@ -831,7 +831,7 @@ public final class SweetWaits {
         return within(fact, 0, FACTS - 1) && within(value, 0, FACT_MOST[fact]);
     }
 
-    private static boolean isTrial(int how) {
+    private static boolean meansTried(int how) {
         return how == TOOK || how == CUT;
     }
 
@@ -910,7 +910,7 @@ public final class SweetWaits {
         }
 
         boolean isTried(int child) {
-            return isTrial(at(child, HOW));
+            return meansTried(at(child, HOW));
         }
 
         int side(int child) {
@@ -1326,7 +1326,8 @@ public final class SweetWaits {
         static final int STOP_IF_NOT = 2000;
         static final int STOP_IF_SO = 3000;
 
-        static final int UNTOLD = Integer.MIN_VALUE;
+        // Below all that a SUM can be.
+        static final int UNTOLD = -2000000000;
         // A SUM that is BROKEN leaves its clause as good as not there.
         private static final int BROKEN = UNTOLD;
         private static final int MOST = 1000000000;
@@ -1798,7 +1799,7 @@ public final class SweetWaits {
         /** The set of FACTS by which WON less LOST is nearest to 0; NONE without a pair that is WON or LOST. */
         int nearestSet() {
             countBySets();
-            int least = Integer.MAX_VALUE;
+            int least = CHILDREN_MOST * CHILDREN_MOST;
             int chosen = NONE;
             for (int set = 0; set < SETS; set++) {
                 if (decided[set] > 0 && Math.abs(balances[set]) < least) {
@@ -1823,7 +1824,8 @@ public final class SweetWaits {
                     }
                 }
             }
-            for (int bit = 1; bit < SETS; bit += bit) {
+            for (int fact = 0; fact < FACTS; fact++) {
+                int bit = 1 << fact;
                 for (int set = 0; set < SETS; set++) {
                     if ((set & bit) == 0) {
                         balances[set] += balances[set | bit];
