@@ -117,6 +117,9 @@ final class EdgesOfGroups {
         z = chain(JUST, 0);
         e.due("a half", z.stays(-1, 200), 500000);
         e.due("nobody was tried", Edges.kids(2).stays(-1, 200), 1000000);
+        SweetWaits gone = Edges.waiting(new int[][] {{50, 0}, {60, 1}});
+        e.due("nobody is there any more", gone.stays(-1, 200), 500000);
+        e.due("nobody is there any more", gone.right(-1, 50, 200), 1000000);
     }
 
     /**
@@ -204,6 +207,15 @@ final class EdgesOfGroups {
         e.due("from 0", x.right(-1, 20, 20), -1);
         e.due("from 0", x.right(-1, 20, 200), -1);
         e.due("from 0", x.right(-1, 200, 200), -1);
+        SweetWaits all = Edges.waiting(new int[][] {{200, 0}, {200, 0}});
+        e.due("all at the end: to 0", all.right(-1, 199, 200), 0);
+        e.due("all at the end: from 0", all.right(-1, 200, 200), -1);
+        all.minute(0, 0, 0);
+        all.minute(1, 0, 0);
+        e.due("all at once: from 0", all.right(-1, 0, 0), -1);
+        e.due("all at once: from 0", all.right(-1, 0, 200), -1);
+        all.minute(1, 0, 1);
+        e.due("all but one", all.right(-1, 0, 200), 1000000);
         e.by("19", "STAYS at to through STAYS at from.");
         e.due("to 10", x.right(-1, 9, 10), 142857);
         e.by("19", "NONE (to below from, too)");

@@ -124,6 +124,15 @@ final class EdgesOfImages {
             e.due("no child 119", x.dealt(119, 0), -2);
             e.due("no text 9", x.run(9, 0), -2);
         }
+        SweetWaits y = Edges.kids(1);
+        y.image(0);
+        Check.text(y, "chance 10;chance 11;chance 12 if 1=2");
+        y.image(1);
+        y.back(0);
+        Check.text(y, "chance 20");
+        e.due("another text", y.chance(0, 0, 0), 20);
+        y.back(1);
+        e.due("the text that it kept", y.chance(0, 0, 0), 11);
         x.child(3, 0, 0, 0, 0, 0);
         int[] fresh = {3, 0, 0, 0, 0, 0, 0, 0, 0, 0, 3, -1, -1, -1, -1, 0};
         for (int what = 0; what < 16; what++) {

@@ -40,6 +40,11 @@ final class EdgesOfLaws {
         e.due("19", x.chance(3, 0, 19), 29);
         e.due("20", x.chance(3, 0, 20), -1);
         e.due("-1", x.chance(3, 0, -1), -1);
+        e.by("21", "CHANCE of a TEXT for a CHILD in a minute.");
+        x.fact(1, 1, 1);
+        e.due("the other text for the other child", x.chance(1, 1, 19), 7);
+        e.due("for this one", x.chance(1, 0, 19), 50);
+        e.due("for the other one", x.chance(1, 1, 0), 7);
         e.by("21", "NONE.");
         for (int minute : new int[] {-1, 20, LOW, HIGH}) {
             e.due("no minute " + minute, x.chance(0, 0, minute), -1);
@@ -120,6 +125,14 @@ final class EdgesOfLaws {
         e.due("just more", x.times(0, 2, -1), 1);
         e.due("just twice", x.times(0, 3, -1), 2);
         e.due("not quite twice", x.times(0, 4, -1), 1);
+        // 2 to the 30th, and next to it on either side.
+        SweetWaits y = laws(5, new int[] {64, 64, 64, 64, 64}, new int[] {50, 62, 82, 44, 96}, new int[] {57, 57, 58, 74, 77});
+        e.due("1024 more", y.times(0, 1, -1), 1);
+        e.due("1024 less", y.times(1, 0, -1), 0);
+        e.due("692 less", y.times(0, 2, -1), 0);
+        e.due("692 more", y.times(2, 0, -1), 1);
+        e.due("the most likely", y.likely(-1), 2);
+        e.due("weighed anew", y.times(0, 1, -1), 1);
         e.by("22", "NONE.");
         for (int text : new int[] {-1, -2, 5, LOW, HIGH}) {
             e.due("no text " + text, x.times(text, 0, -1), -1);
@@ -157,8 +170,10 @@ final class EdgesOfLaws {
         e.due("far less", x.times(5, 4, -1), 0);
         e.due("of one alike", x.times(0, 1, 5), 1);
         e.due("of one twice", x.times(0, 3, 5), 2);
+        nextToAlike(e);
         e.by("23", "The TEXT that is most LIKELY for a GROUP (the lowest)");
         e.due("99 each", x.likely(-1), 4);
+        e.due("weighed anew", x.times(1, 0, -1), 1);
         SweetWaits y = Edges.kids(120);
         for (int i = 0; i < 120; i++) {
             y.minute(i, 200, 1);
@@ -172,6 +187,20 @@ final class EdgesOfLaws {
         e.due("a little more", y.likely(-1), 3);
         Check.text(y, "chance 1;chance 20 if minute/2*2=minute;chance 2 if wit=1 and minute=19");
         e.due("a little less", y.likely(-1), 3);
+    }
+
+    /** Products of 2400 factors each that differ by one in 7920: 89*89 and 88*90, which is 99*80. */
+    private static void nextToAlike(Edges e) {
+        SweetWaits x = Edges.kids(120);
+        for (int i = 0; i < 120; i++) {
+            x.minute(i, 200, 1);
+        }
+        x.fact(119, 1, 1);
+        Check.text(x, "chance 1;chance 20 if minute/2*2=minute");
+        Check.text(x, "chance 10;chance 12 if minute/2*2=minute;chance 11 if wit=1 and minute<2");
+        e.due("one in 7920 less", x.times(0, 1, -1), 0);
+        e.due("one in 7920 more", x.times(1, 0, -1), 1);
+        e.due("the more likely", x.likely(-1), 1);
     }
 
     private static void likely(Edges e) {
@@ -279,12 +308,19 @@ final class EdgesOfLaws {
             "waits way/23"};
         int[] want = {0, 71, 0, 71, 33, 1, 13, 0, 0, 69};
         for (int i = 0; i < laws.length; i++) {
+            x.image(0);
             Check.text(x, laws[i]);
             e.due(laws[i], x.trial(i, 0, -1), want[i]);
             e.due(laws[i] + ", turned", x.trial(0, i, -1), want[i]);
             e.due(laws[i] + ", itself", x.trial(i, i, -1), 0);
         }
         e.due("of nobody: the lowest", x.trial(1, 0, 1), 0);
+        x.back(0);
+        Check.text(x, "waits way");
+        e.due("way alone", x.trial(9, 0, -1), 69);
+        x.back(0);
+        Check.text(x, "waits dealt");
+        e.due("dealt alone", x.trial(9, 0, -1), 2);
         e.due("two that have the words", x.trial(1, 2, -1), 0);
         x.fact(0, 5, 23);
         x.dealt(0, 2);
@@ -340,6 +376,10 @@ final class EdgesOfLaws {
         e.due("all", y.fewest(0, 1, -1, 0, 0, 24000), 120);
         e.due("all but one", y.fewest(0, 1, -1, 0, 0, 23800), 119);
         e.due("beyond all", y.fewest(0, 1, -1, 0, 0, 24001), -1);
+        Check.text(y, "waits 1");
+        e.due("1 each", y.fewest(2, 1, -1, 0, 0, 119), 119);
+        e.due("1 each", y.fewest(2, 1, -1, 0, 0, 120), 120);
+        e.due("1 each", y.fewest(2, 1, -1, 0, 0, 121), -1);
         e.due("100,000", y.fewest(0, 1, -1, 0, 0, 100000), -1);
     }
 }

@@ -167,11 +167,12 @@ final class EdgesOfLooks {
         put(y, 0, 100, 5);
         put(y, 0, 99, 6);
         put(y, 1, 99, 6);
-        put(y, 1, 99, 5);
+        put(y, 1, 99, 4);
         y.fact(1, 6, 3);
         y.fact(1, 7, 3);
+        y.fact(3, 0, 5);
         e.due("alike in causes, kept and broken are none of these", y.beside(-1, 1), -1);
-        e.due("-1 is no refusal here: nothing", y.beside(-1, 2), -2);
+        e.due("-1 is no refusal here: nothing", y.beside(-1, 2), -1);
         y.meaning(5, 2);
         e.due("way comes of waiting", y.beside(-1, 1), -2);
         e.by("32", "NOTHING (-1,000,000) without such a GROUP, what.");
@@ -212,6 +213,18 @@ final class EdgesOfLooks {
         e.due("by all", all.beside(-1, 3), 255);
         all.fact(1, 7, 1);
         e.due("by all but one, in which one more is unlike: the lowest", all.beside(-1, 3), 191);
+        SweetWaits last = new SweetWaits();
+        put(last, 0, 99, 5);
+        put(last, 0, 99, 5);
+        put(last, 0, 99, 7);
+        put(last, 0, 100, 6);
+        last.fact(0, 0, 1);
+        // Won twice, lost once; alike in house: won once, lost once.
+        e.due("the long one is the last", last.beside(-1, 3), 1);
+        last.minute(0, 0, 3);
+        last.minute(1, 0, 3);
+        e.due("of fewer than ahead of that", last.beside(-1, 3), 0);
+        e.due("lost once", last.beside(-1, 2), -1);
         e.by("32", "of those with a PAIR that is WON or LOST, of alike ones the lowest bits (3; NONE without)");
         SweetWaits y = new SweetWaits();
         e.due("nobody", y.beside(-1, 3), -1);

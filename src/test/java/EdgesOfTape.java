@@ -122,17 +122,9 @@ final class EdgesOfTape {
     private static void cutShort(Edges e) {
         e.by("I", "or one within which the TAPE ends: it had to GO");
         for (int n = 0; n <= 8; n++) {
-            SweetWaits x = Edges.kids(3);
-            // Each byte is 0, so that what is there of a number would be a wait.
-            x.feed(0, 0, 0, 0, 0);
-            x.end(n);
-            int whole = n / 4;
-            int rest = n % 4 == 0 ? 0 : 1;
-            e.due("a row of " + n + " bytes", x.row(0), n == 0 ? -6 : rest);
-            for (int child = 0; child < 3; child++) {
-                int how = child < whole ? 0 : child < whole + rest ? 2 : 3;
-                e.due("child " + child + " by " + n + " bytes", x.of(child, 10), how);
-            }
+            // Each byte is 0, or each is 255, so that what is there of a number would be a wait.
+            cutShort(e, n, 0);
+            cutShort(e, n, -1);
         }
         e.by("I", "What is behind the last CHILD is passed by.");
         SweetWaits x = Edges.kids(3);
@@ -148,6 +140,19 @@ final class EdgesOfTape {
         e.due("it stays three", x.count(0), 3);
         e.due("a child that comes then", x.child(0, 0, 0, 0, 0, 0), 3);
         e.due("has none of it", x.of(3, 10), 3);
+    }
+
+    private static void cutShort(Edges e, int n, int number) {
+        SweetWaits x = Edges.kids(3);
+        x.feed(number, number, number, number, number);
+        x.end(n);
+        int whole = n / 4;
+        int rest = n % 4 == 0 ? 0 : 1;
+        e.due("a row of " + n + " bytes of " + number, x.row(0), n == 0 ? -6 : rest);
+        for (int child = 0; child < 3; child++) {
+            int how = child < whole ? -number : child < whole + rest ? 2 : 3;
+            e.due("child " + child + " by " + n + " bytes of " + number, x.of(child, 10), how);
+        }
     }
 
     private static void row(Edges e) {

@@ -11,6 +11,7 @@ final class EdgesOfTexts {
         heads(e);
         tests(e);
         sums(e);
+        words(e);
         numbers(e);
         parts(e);
         brackets(e);
@@ -200,6 +201,39 @@ final class EdgesOfTexts {
         bad(e, "chance [1=1]", 9);
         bad(e, "chance in", 7);
         bad(e, "chance not", 7);
+    }
+
+    /** Each word is its own: the least and the most that it can be. */
+    private static void words(Edges e) {
+        e.by("II", "| \"way\" | \"kept\" | \"broken\" | \"dealt\" | \"minute\" | \"waited\"");
+        String[] words = {"house", "wit", "likes", "hungry", "nursery", "way", "kept", "broken", "dealt", "waited"};
+        int[] most = {5, 9, 9, 9, 7, 23, 9, 9, 2, 200};
+        SweetWaits x = Edges.kids(1);
+        x.terms(2, 20);
+        for (String word : words) {
+            Check.text(x, "waits " + word + ";chance 1+minute;later " + word);
+        }
+        for (int slot = 0; slot < words.length; slot++) {
+            for (int word = 0; word < words.length; word++) {
+                e.due(words[word] + " of none", x.waits(word, 0), 0);
+            }
+            put(x, slot, most[slot]);
+            for (int word = 0; word < words.length; word++) {
+                e.due(words[word] + " by " + words[slot], x.waits(word, 0), word == slot ? most[slot] : 0);
+            }
+            put(x, slot, 0);
+        }
+        e.due("minute", x.chance(0, 0, 19), 20);
+    }
+
+    private static void put(SweetWaits x, int slot, int value) {
+        if (slot < 8) {
+            x.fact(0, slot, value);
+        } else if (slot == 8) {
+            x.dealt(0, value);
+        } else {
+            x.minute(0, value, 1);
+        }
     }
 
     private static void numbers(Edges e) {
@@ -411,6 +445,15 @@ final class EdgesOfTexts {
                 }
             }
         }
+        for (int one = 0; one < 3; one++) {
+            for (int other = 0; other < 3; other++) {
+                int turned = one == 2 ? 2 : 1 - one;
+                truth(e, "not " + values[one] + " and " + values[other], and[turned][other]);
+                truth(e, "not " + values[one] + " or " + values[other], or[turned][other]);
+                truth(e, "not not " + values[one] + " and not not " + values[other], and[one][other]);
+                truth(e, "not not " + values[one] + " or not not " + values[other], or[one][other]);
+            }
+        }
         e.by("II", "A CLAUSE HOLDS, if its \"if\" (if it has one) is so, and neither that nor its SUM is BROKEN");
         e.due("without an if", waits("7"), 7);
         e.due("so", waits("7 if wit=3"), 7);
@@ -427,6 +470,16 @@ final class EdgesOfTexts {
         e.due("the last that holds", waits("7;waits 8 if wit=4"), 7);
         e.due("the last that is not broken", waits("7;waits 8/0"), 7);
         e.due("not the greatest", waits("7;waits 6"), 6);
+        e.due("one behind a broken one", waits("7/0;waits 8"), 8);
+        e.due("one behind another head's broken one", waits("7;chance 1/0;waits 8"), 8);
+        e.due("one behind a broken if", waits("7 if 1/0=1;waits 8"), 8);
+        SweetWaits x = Edges.kids(1);
+        Check.text(x, "chance 1;chance 2;chance 3;waits 3");
+        Check.text(x, "chance 4");
+        Check.text(x, "in");
+        e.due("a longer text ahead of it is another one", x.chance(1, 0, 0), 4);
+        e.due("a longer text ahead of it is another one", x.waits(1, 0), 0);
+        e.due("a longer text ahead of it is another one", x.chance(2, 0, 0), 50);
         e.due("other heads are others", waits("7;chance 8;later 9;in"), 7);
         e.due("another head's if", waits("7;in if wit=4;chance 8 if 1/0=1"), 7);
     }

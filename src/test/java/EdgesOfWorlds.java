@@ -314,6 +314,7 @@ final class EdgesOfWorlds {
             e.due("the other one", x.world(1, 0), waited[law]);
             e.due("drawn", x.drawn(0), want[law]);
         }
+        drawnOfMany(e);
         e.by("41", "ALIKE in FACTS (0 .. 255) as they were when it ran");
         x.run(1, 327279);
         x.fact(1, 1, 0);
@@ -340,6 +341,29 @@ final class EdgesOfWorlds {
         e.so("with one", y.drawn(0) > -1000000);
     }
 
+    /** Of 120 children, half of whom mostly take it, by what world tells of each. */
+    private static void drawnOfMany(Edges e) {
+        SweetWaits x = Edges.kids(120);
+        for (int i = 0; i < 120; i += 2) {
+            x.fact(i, 1, 1 + i % 9);
+        }
+        Check.text(x, "chance 1;chance 40 if wit>0;later wit*3+waited/[wit+1]");
+        for (int seed : new int[] {0, 5, 1000000}) {
+            x.run(0, seed);
+            int[] sum = new int[2];
+            for (int i = 0; i < 120; i++) {
+                for (int k = 0; k < 120; k++) {
+                    boolean pair = x.world(i, 1) == 0 && x.world(k, 1) == 1;
+                    int sign = pair ? Integer.signum(x.world(i, 2) - x.world(k, 2)) : 0;
+                    sum[0] += sign;
+                    sum[1] += x.of(i, 1) == x.of(k, 1) ? sign : 0;
+                }
+            }
+            e.due("all from " + seed, x.drawn(0), sum[0]);
+            e.due("alike in wit from " + seed, x.drawn(2), sum[1]);
+        }
+    }
+
     private static void like(Edges e) {
         e.by("V", "LIKE a CHILD are all others that are ALIKE to it in told FACTS.");
         SweetWaits x = Edges.kids(1);
@@ -353,28 +377,29 @@ final class EdgesOfWorlds {
         e.due("nobody", full.like(119, 255, 0), 0);
         e.due("in other facts", full.like(119, 127, 0), 119);
         e.by("42", "how many (what 0), LONG ones (1), SHORT ones (2), FOUND ones (3), of these those with more of the THING");
-        SweetWaits y = Edges.waiting(new int[][] {{100, 0}, {100, 0}, {99, 0}, {99, 1}, {100, 1}});
+        SweetWaits y = Edges.waiting(new int[][] {{100, 0}, {100, 0}, {99, 0}, {99, 1}, {100, 1}, {0, 2}});
         for (int i = 0; i < 4; i++) {
             y.later(i, 0, 499 + i % 3);
         }
         y.later(0, 0, 500);
-        int[] want = {4, 2, 1, 3, 1};
+        y.later(5, 0, 3);
+        int[] want = {5, 2, 1, 4, 1};
         for (int what = 0; what < 5; what++) {
             e.due("what " + what, y.like(0, 0, what), want[what]);
         }
         y.later(0, 0, 501);
         e.due("none has more", y.like(0, 0, 4), 0);
         y.later(0, 0, 0);
-        e.due("all have more", y.like(0, 0, 4), 3);
+        e.due("all have more", y.like(0, 0, 4), 4);
         e.by("42", "(4; it not FOUND: NONE)");
         e.due("not found", y.like(4, 0, 4), -1);
-        e.due("but the others are", y.like(4, 0, 3), 4);
+        e.due("but the others are", y.like(4, 0, 3), 5);
         y.later(4, 0, 0);
-        e.due("found", y.like(4, 0, 4), 3);
+        e.due("found", y.like(4, 0, 4), 4);
         y.terms(1, 1);
         e.due("not found by another thing", y.like(4, 0, 4), -1);
         e.by("42", "than it has (4; it not FOUND: NONE). NONE.");
-        for (int child : new int[] {-1, 5, 120, LOW, HIGH}) {
+        for (int child : new int[] {-1, 6, 120, LOW, HIGH}) {
             e.due("no child " + child, y.like(child, 0, 0), -1);
         }
         for (int facts : new int[] {-1, 256, LOW, HIGH}) {
@@ -383,6 +408,6 @@ final class EdgesOfWorlds {
         for (int what : new int[] {-1, 5, LOW, HIGH}) {
             e.due("no what " + what, y.like(0, 0, what), -1);
         }
-        e.due("the last one", y.like(4, 255, 0), 4);
+        e.due("the last one", y.like(5, 255, 0), 5);
     }
 }
