@@ -119,6 +119,9 @@ final class EdgesOfLaws {
         e.due("a million", x.times(0, 1, -1), 1000000);
         x = laws(4, new int[] {80, 50, 50, 10}, new int[] {1, 1, 1, 1});
         e.due("two million", x.times(0, 1, -1), 1000000);
+        x = laws(8, new int[] {50, 50, 50, 50, 50, 50, 50, 50}, new int[] {10, 10, 10, 10, 10, 10, 10, 10});
+        e.due("5 to the eighth", x.times(0, 1, -1), 390625);
+        e.due("back", x.times(1, 0, -1), 0);
         x = laws(2, new int[] {60, 60}, new int[] {40, 90}, new int[] {59, 61}, new int[] {30, 60}, new int[] {30, 61});
         e.due("the same by others", x.times(0, 1, -1), 1);
         e.due("just less", x.times(2, 0, -1), 0);
@@ -198,9 +201,9 @@ final class EdgesOfLaws {
         x.fact(119, 1, 1);
         Check.text(x, "chance 1;chance 20 if minute/2*2=minute");
         Check.text(x, "chance 10;chance 12 if minute/2*2=minute;chance 11 if wit=1 and minute<2");
+        e.due("the more likely", x.likely(-1), 1);
         e.due("one in 7920 less", x.times(0, 1, -1), 0);
         e.due("one in 7920 more", x.times(1, 0, -1), 1);
-        e.due("the more likely", x.likely(-1), 1);
     }
 
     private static void likely(Edges e) {

@@ -214,12 +214,13 @@ final class EdgesOfLooks {
         all.fact(1, 7, 1);
         e.due("by all but one, in which one more is unlike: the lowest", all.beside(-1, 3), 191);
         SweetWaits last = new SweetWaits();
-        put(last, 0, 99, 5);
-        put(last, 0, 99, 5);
+        put(last, 0, 99, 9);
+        put(last, 0, 99, 9);
         put(last, 0, 99, 7);
         put(last, 0, 100, 6);
         last.fact(0, 0, 1);
-        // Won twice, lost once; alike in house: won once, lost once.
+        last.fact(1, 0, 1);
+        // Lost thrice; alike in house: lost once.
         e.due("the long one is the last", last.beside(-1, 3), 1);
         last.minute(0, 0, 3);
         last.minute(1, 0, 3);

@@ -279,6 +279,12 @@ final class EdgesOfTexts {
         SweetWaits x = Edges.kids(1);
         Check.text(x, fifty);
         e.due("all fifty count", x.chance(0, 0, 0), 49);
+        SweetWaits full = Edges.kids(1);
+        for (int i = 0; i < 10; i++) {
+            e.due("51 in none", Check.text(full, fifty + "-" + i), -6);
+            Check.text(full, "chance " + i + "+1".repeat(49));
+            e.due("fifty in each of ten", full.chance(i, 0, 0), 49 + i);
+        }
         String deep = "chance 1-[".repeat(1) + "1-[".repeat(6) + "1" + "+1".repeat(42) + "]".repeat(7);
         e.due("fifty within brackets", Check.text(x, deep), 1);
         e.due("1 less 1 less .. 43", x.chance(1, 0, 0), 1);
@@ -480,6 +486,10 @@ final class EdgesOfTexts {
         e.due("a longer text ahead of it is another one", x.chance(1, 0, 0), 4);
         e.due("a longer text ahead of it is another one", x.waits(1, 0), 0);
         e.due("a longer text ahead of it is another one", x.chance(2, 0, 0), 50);
+        Check.text(x, "chance 5;in;chance 6");
+        Check.text(x, "chance 1+3");
+        e.due("no clause of it stays", x.group(4, 0), 0);
+        e.due("no clause of it stays", x.chance(4, 0, 0), 4);
         e.due("other heads are others", waits("7;chance 8;later 9;in"), 7);
         e.due("another head's if", waits("7;in if wit=4;chance 8 if 1/0=1"), 7);
     }
