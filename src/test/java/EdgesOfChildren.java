@@ -27,6 +27,8 @@ final class EdgesOfChildren {
     }
 
     private static void newObject(Edges e) {
+        e.by("V", "`NONE = -1`: There is none.");
+        e.due("NONE", SweetWaits.NONE, -1);
         e.by("1", "No CHILDREN, TEXTS.");
         Edges.kids(3).image(0);
         SweetWaits x = new SweetWaits();
@@ -319,6 +321,15 @@ final class EdgesOfChildren {
     }
 
     private static void minute(Edges e) {
+        e.by("I", "A CHILD TOOK it, or was CUT OFF, behind so many TENTHS 0 .. 200 of a minute");
+        for (int how = 0; how < 2; how++) {
+            SweetWaits one = Edges.kids(1);
+            e.due("-1", one.minute(0, -1, how), -1);
+            e.due("0", one.minute(0, 0, how), 3);
+            e.due("200", one.minute(0, 200, how), how);
+            e.due("201", one.minute(0, 201, how), -1);
+            e.due("it stays", one.of(0, 9), 200);
+        }
         SweetWaits x = Edges.kids(2);
         String[] said = {"A CHILD waited TENTHS and TOOK it (how 0)", "was CUT OFF (1)", "had to GO (2; TENTHS 0 then)",
             "is not TRIED (3; 0)"};

@@ -101,6 +101,19 @@ final class EdgesOfTape {
     }
 
     private static void waits(Edges e) {
+        e.by("I", "four bytes each (the highest first), for one CHILD after the other from a told one on");
+        SweetWaits x = Edges.kids(4);
+        x.feed(100, -101, 3, 0, 0);
+        x.end(12);
+        e.due("row", x.row(1), 0);
+        e.due("ahead of the told one", x.of(0, 10), 3);
+        e.due("the told one", x.of(1, 9) * 10 + x.of(1, 10), 1000);
+        e.due("the next", x.of(2, 9) * 10 + x.of(2, 10), 1001);
+        e.due("the last", x.of(3, 9) * 10 + x.of(3, 10), 30);
+        Check.tape(x, "" + (char) 0 + (char) 0 + (char) 0 + (char) 200);
+        e.due("the lowest byte is the last", x.row(3) + x.of(3, 9), 200);
+        Check.tape(x, "" + (char) 200 + (char) 0 + (char) 0 + (char) 0);
+        e.due("not the first", x.row(3), 1);
         e.by("I", "0 .. 200: it TOOK it then");
         wait(e, 0, 0, 0);
         wait(e, 1, 0, 1);

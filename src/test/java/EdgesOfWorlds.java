@@ -12,6 +12,7 @@ final class EdgesOfWorlds {
         trust(e);
         draws(e);
         minutes(e);
+        nextOne(e);
         later(e);
         refused(e);
         world(e);
@@ -184,6 +185,24 @@ final class EdgesOfWorlds {
                     waiting += minute == end ? 1 : 0;
                 }
                 e.due("wait to " + end, lasted, waiting);
+            }
+        }
+    }
+
+    /** Each child's DRAWS begin where those of the one ahead of it ended. */
+    private static void nextOne(Edges e) {
+        e.by("V", "else it waits on; the next one then");
+        SweetWaits x = Edges.kids(3);
+        x.terms(2, 2);
+        // From 0: 45 41, 89 57, 60 50; by 46: 45, 41, 89 57.
+        Check.text(x, "chance 45");
+        Check.text(x, "chance 46");
+        Check.text(x, "chance 42");
+        int[][] want = {{1, 2, 2}, {0, 0, 2}, {1, 2, 2}};
+        for (int law = 0; law < 3; law++) {
+            x.run(law, 0);
+            for (int child = 0; child < 3; child++) {
+                e.due("minutes of " + child + " by " + law, x.world(child, 0), want[law][child]);
             }
         }
     }
